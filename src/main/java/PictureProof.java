@@ -252,8 +252,9 @@ public final class PictureProof {
         int own = approvedSlot(branch, test);
         int main = approvedSlot(0, test);
         int base = baseSlot(branch, test);
-        // A branch that still has its base must not put back what the branch 0 has changed since.
-        if (!pictures.same(own, base) && pictures.same(main, base)) {
+        // Without a clash, a branch 0 that has left the base has nothing to take: the branch
+        // has its base still, or the same as the branch 0.
+        if (pictures.same(main, base)) {
             pictures.copy(own, main);
         }
     }
@@ -455,12 +456,13 @@ public final class PictureProof {
         }
 
         boolean has(int test) {
-            return left(test) < right(test);
+            return isTest(test) && lefts[test] < rights[test];
         }
 
         boolean holds(int test, int column, int row) {
-            return column >= left(test) && column < right(test)
-                    && row >= top(test) && row < bottom(test);
+            return isTest(test)
+                    && column >= lefts[test] && column < rights[test]
+                    && row >= tops[test] && row < bottoms[test];
         }
 
         int left(int test) {
@@ -482,7 +484,7 @@ public final class PictureProof {
         }
     }
 
-    /** The last results of each test: a bit each, the newest lowest. */
+    /** The last results of each test: a bit each, the newest lowest; forgotten ones stay above them. */
     private static final class Histories {
         private final int[] results = new int[TESTS];
         private final int[] lengths = new int[TESTS];
@@ -491,8 +493,7 @@ public final class PictureProof {
             if (!isTest(test)) {
                 return;
             }
-            int kept = (1 << LONGEST_HISTORY) - 1;
-            results[test] = (results[test] << 1 | (passes ? 1 : 0)) & kept;
+            results[test] = (results[test] << 1) | (passes ? 1 : 0);
             lengths[test] = Math.min(lengths[test] + 1, LONGEST_HISTORY);
         }
 
@@ -504,9 +505,10 @@ public final class PictureProof {
             if (!isTest(test) || lengths[test] < 2) {
                 return 0;
             }
-            // The oldest result has none before it, so its bit is left out.
+            // The oldest result has none before it, so its bit and all forgotten ones are left out.
             int places = (1 << (lengths[test] - 1)) - 1;
-            return Integer.bitCount((results[test] ^ results[test] >> 1) & places);
+            int changes = results[test] ^ (results[test] >> 1);
+            return Integer.bitCount(changes & places);
         }
     }
 }

@@ -12,6 +12,8 @@ public final class BranchesTest {
         joinOfAnUnchangedBranchTakesNothing();
         joinTakesOverWhatTheBranchChanged();
         joinTakesOverAFirstPicture();
+        joinTellsNoneFromAPictureOfZeros();
+        beginAndJoinLeaveOtherBranchesAlone();
         joinGivesTheBranchWhatTheBranch0Has();
         joinOfTheSameOnBothSidesIsNoClash();
         joinClashes();
@@ -150,6 +152,44 @@ public final class BranchesTest {
         holds("taken over", proof, 0, 3, 2);
         CHECKS.same("other tests stay without", proof.isApproved(0, 2), false);
         CHECKS.same("other branches stay without", proof.isApproved(2, 3), false);
+    }
+
+    private static void joinTellsNoneFromAPictureOfZeros() {
+        PictureProof taken = new PictureProof();
+        taken.approve(1, 0);
+        CHECKS.same("join of a picture of zeros", taken.join(1), 0);
+        CHECKS.same("it is taken over", taken.isApproved(0, 0), true);
+        PictureProof followed = new PictureProof();
+        followed.approve(0, 0);
+        CHECKS.same("join of a branch without it", followed.join(1), 0);
+        CHECKS.same("the branch follows", followed.isApproved(1, 0), true);
+        PictureProof clash = new PictureProof();
+        clash.approve(0, 0);
+        approveShade(clash, 1, 0, 8);
+        CHECKS.same("zeros are a change of none", clash.join(1), 1);
+    }
+
+    private static void beginAndJoinLeaveOtherBranchesAlone() {
+        for (int branch = 1; branch < 4; branch++) {
+            PictureProof proof = new PictureProof();
+            for (int test = 0; test < 5; test++) {
+                for (int on = 0; on < 4; on++) {
+                    approveShade(proof, on, test, 10 * on + test);
+                }
+            }
+            proof.begin(branch);
+            for (int test = 0; test < 5; test++) {
+                approveShade(proof, branch, test, 100 + test);
+            }
+            CHECKS.same("join by the bases of begin", proof.join(branch), 0);
+            proof.begin(branch);
+            for (int test = 0; test < 5; test++) {
+                for (int on = 0; on < 4; on++) {
+                    int due = on == 0 || on == branch ? 100 + test : 10 * on + test;
+                    holds("branch " + on + ", test " + test, proof, on, test, due);
+                }
+            }
+        }
     }
 
     private static void joinGivesTheBranchWhatTheBranch0Has() {
